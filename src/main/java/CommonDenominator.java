@@ -40,7 +40,7 @@ public final class CommonDenominator {
 
   private final Field field = new Field();
   private final Value[] store = new Value[STORED];
-  private final Course course = new Course(field);
+  private final Course course = new Course();
   private final Word word = new Word();
   private final Tape tape = new Tape();
   private final Past past = new Past();
@@ -48,7 +48,7 @@ public final class CommonDenominator {
   private int way = 0;
 
   // What a call works with, made once: nothing is made by any later call.
-  private final Course paper = new Course(field);
+  private final Course paper = new Course();
   private final Field drawn = new Field();
   private final Square square = new Square();
   private final Bounds between = new Bounds();
@@ -106,14 +106,14 @@ public final class CommonDenominator {
 
   public int begin(int i, int j) {
     if (!isStored(i) || !isStored(j)) return told.refuse(NO_PLACE);
-    if (!course.canOpen(store[i], store[j])) return told.refuse(NOT_NOW);
+    if (!Course.canOpen(field, store[i], store[j])) return told.refuse(NOT_NOW);
     note(ACT_BEGIN);
-    course.open(store[i], store[j], way);
+    course.open(field, store[i], store[j], way);
     return told.pass(course.floorAt(0, 0));
   }
 
   public int step() {
-    int refusal = course.prepare();
+    int refusal = course.prepare(field);
     if (refusal != 0) return told.refuse(refusal);
     note(ACT_STEP);
     course.take();
@@ -122,13 +122,13 @@ public final class CommonDenominator {
 
   public int go(int n) {
     if (n < 1 || n > MOST_STEPS) return told.refuse(BAD_NUMBER);
-    int refusal = course.prepare();
+    int refusal = course.prepare(field);
     if (refusal != 0) return told.refuse(refusal);
     note(ACT_GO);
     boolean found = course.hasPeriod();
     int done = 0;
     for (int k = 0; k < n; k++) {
-      if (k > 0 && course.prepare() != 0) break;
+      if (k > 0 && course.prepare(field) != 0) break;
       course.take();
       done++;
       if (!found && course.hasPeriod()) break;
@@ -343,9 +343,9 @@ public final class CommonDenominator {
 
   public int would(int i, int j, int way, int what) {
     if (!isStored(i) || !isStored(j) || way < 0 || way > 1 || what < 0 || what > 2) return UNTOLD;
-    if (!paper.canOpen(store[i], store[j])) return UNTOLD;
-    paper.open(store[i], store[j], way);
-    int over = paper.runOut();
+    if (!Course.canOpen(field, store[i], store[j])) return UNTOLD;
+    paper.open(field, store[i], store[j], way);
+    int over = paper.runOut(field);
     if (what == 0) return paper.steps;
     return what == 1 ? over : paper.span;
   }
@@ -421,12 +421,12 @@ public final class CommonDenominator {
     int least = 3 * n + 1;
     for (int k = -n; k <= n; k++) {
       for (int l = -n; l <= n; l++) {
-        for (int m = -n; m <= n; m++) {
-          int sum = Math.abs(k) + Math.abs(l) + Math.abs(m);
-          if (sum == 0 || sum >= least || !course.relates(k, l, m)) continue;
-          least = sum;
-          answer = what == 0 ? k : what == 1 ? l : m;
-        }
+        int m = course.thirdOf(k, l);
+        if (!isWithin(m, n)) continue;
+        int sum = Math.abs(k) + Math.abs(l) + Math.abs(m);
+        if (sum == 0 || sum >= least) continue;
+        least = sum;
+        answer = what == 0 ? k : what == 1 ? l : m;
       }
     }
     return answer;
@@ -650,7 +650,7 @@ public final class CommonDenominator {
       into.put(w.d * rows.under(v, 0), w.d * rows.under(v, 1), w.d * rows.under(v, 2), v.d * size);
     }
 
-    /** The VALUES u, v by which m times 1, u, v is ROOT times 1, u, v: what is across the first two rows of m less ROOT. */
+    /** The VALUES u, v by which m times 1, u, v is ROOT times these: by what is across two rows of m less ROOT. */
     boolean layRatios(Square m, Value u, Value v) {
       below.put(m.cell(0, 1) * m.cell(1, 2) - m.cell(0, 2) * m.cell(1, 1), m.cell(0, 2), 0, 1);
       if (below.isZero()) return false;
@@ -754,7 +754,6 @@ public final class CommonDenominator {
 
   /** A COURSE: its STATES, STEPS, PRODUCT and PERIOD. */
   private static final class Course {
-    private final Field field;
     /** Ten numbers a STATE: a, b, c, d, FLOOR of u, then of v. */
     private final int[] states = new int[10 * (MOST_STEPS + 1)];
     /** By number of STEP: 1, if it is TURNED. */
@@ -771,13 +770,9 @@ public final class CommonDenominator {
     private final Value g = new Value();
     private final Value u = new Value();
     private final Value v = new Value();
-    private final Value one = new Value();
+    private int floorU = 0;
+    private int floorV = 0;
     private boolean turned = false;
-
-    Course(Field field) {
-      this.field = field;
-      one.put(1, 0, 0, 1);
-    }
 
     boolean isOn() {
       return way != NONE;
@@ -809,16 +804,22 @@ public final class CommonDenominator {
       return what == 2 && k >= 1 && k < turns.length ? turns[k] : NONE;
     }
 
-    boolean canOpen(Value x, Value y) {
-      return field.sign(x) > 0 && field.sign(y) > 0 && field.floor(x) <= MOST_FLOOR && field.floor(y) <= MOST_FLOOR;
+    static boolean canOpen(Field field, Value x, Value y) {
+      return canOpen(field, x) && canOpen(field, y);
     }
 
-    void open(Value x, Value y, int itsWay) {
-      u.copy(x);
-      v.copy(y);
+    private static boolean canOpen(Field field, Value x) {
+      return field.sign(x) > 0 && field.floor(x) <= MOST_FLOOR;
+    }
+
+    void open(Field field, Value x, Value y, int itsWay) {
       close();
       way = itsWay;
-      saveState(field.floor(u), field.floor(v));
+      u.copy(x);
+      v.copy(y);
+      floorU = field.floor(x);
+      floorV = field.floor(y);
+      saveState();
       product.layOne();
     }
 
@@ -830,12 +831,12 @@ public final class CommonDenominator {
     }
 
     /** The COURSE that was so opened and had so many STEPS: these are done again, as nothing but that tells them. */
-    void reopen(int[] opening, int itsWay, int itsSteps) {
+    void reopen(Field field, int[] opening, int itsWay, int itsSteps) {
       u.load(opening, 0);
       v.load(opening, 4);
-      open(u, v, itsWay);
+      open(field, u, v, itsWay);
       for (int k = 0; k < itsSteps && k < MOST_STEPS; k++) {
-        if (prepare() == 0) take();
+        if (prepare(field) == 0) take();
       }
     }
 
@@ -849,21 +850,24 @@ public final class CommonDenominator {
     }
 
     /** Lays out the next STEP: 0, or by what it is REFUSED. */
-    int prepare() {
+    int prepare(Field field) {
       if (!isOn() || ends()) return NO_COURSE;
       if (steps >= MOST_STEPS) return NO_RESULT;
-      part();
+      layRests(field);
       if (f.isZero()) return NO_COURSE;
       field.divide(g, f, u);
-      field.divide(one, f, v);
+      v.put(1, 0, 0, 1);
+      field.divide(v, f, v);
       if (!u.canBe() || !v.canBe()) return NO_RESULT;
-      if (field.floor(u) > MOST_FLOOR || field.floor(v) > MOST_FLOOR) return NO_RESULT;
+      floorU = field.floor(u);
+      floorV = field.floor(v);
+      if (floorU > MOST_FLOOR || floorV > MOST_FLOOR) return NO_RESULT;
       next.copy(product);
       next.follow(floorAt(steps, 0), floorAt(steps, 1), turned);
       return next.isBeyond() ? NO_RESULT : 0;
     }
 
-    private void part() {
+    private void layRests(Field field) {
       lay(steps, 0, f);
       lay(steps, 1, g);
       f.takeOff(floorAt(steps, 0));
@@ -880,12 +884,12 @@ public final class CommonDenominator {
       if (steps >= MOST_STEPS) return;
       steps++;
       turns[steps] = (byte) (turned ? 1 : 0);
-      saveState(field.floor(u), field.floor(v));
+      saveState();
       product.copy(next);
       if (start == NONE) findPeriod();
     }
 
-    private void saveState(int floorU, int floorV) {
+    private void saveState() {
       int at = 10 * steps;
       if (at < 0 || at > states.length - 10) return;
       u.save(states, at);
@@ -911,11 +915,11 @@ public final class CommonDenominator {
     }
 
     /** STEPS till it is over: 1 it ENDS, 2 a PERIOD is found, 3 one would be REFUSED, 0 none of these by 60. */
-    int runOut() {
+    int runOut(Field field) {
       for (int k = 0; k <= MOST_STEPS; k++) {
         if (ends()) return 1;
         if (steps >= MOST_STEPS) return 0;
-        if (prepare() != 0) return 3;
+        if (prepare(field) != 0) return 3;
         take();
         if (hasPeriod()) return 2;
       }
@@ -968,6 +972,19 @@ public final class CommonDenominator {
       return high == -1 ? low - half : NOTHING;
     }
 
+    /** The m by which k, l, m are a RELATION (one at most, as v is above 0); UNTOLD without one. */
+    int thirdOf(int k, int l) {
+      int byU = states[3];
+      int byV = states[8];
+      int what = states[7] != 0 ? 2 : states[6] != 0 ? 1 : 0;
+      int times = byU * states[5 + what];
+      int rest = -l * byV * states[what];
+      if (what == 0) rest -= k * byU * byV;
+      if (times == 0 || rest % times != 0) return UNTOLD;
+      int m = rest / times;
+      return relates(k, l, m) ? m : UNTOLD;
+    }
+
     boolean relates(int k, int l, int m) {
       int byU = states[3];
       int byV = states[8];
@@ -1014,7 +1031,7 @@ public final class CommonDenominator {
       }
     }
 
-    /** SIGN of the FRACTION of column i less that of column j; by whole parts in turn, as products may be beyond a long. */
+    /** SIGN of column i's FRACTION less column j's; by whole parts in turn, as products may be beyond a long. */
     private static int order(Square product, int row, int i, int j) {
       long x = product.cell(row, i);
       long y = product.cell(0, i);
@@ -1256,7 +1273,7 @@ public final class CommonDenominator {
       for (int i = 0; i < store.length; i++) store[i].load(values, 4 * i);
       word.copy(letters);
       course.close();
-      if (way != NONE) course.reopen(opening, way, steps);
+      if (way != NONE) course.reopen(field, opening, way, steps);
     }
   }
 

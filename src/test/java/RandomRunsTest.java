@@ -10,13 +10,17 @@ public final class RandomRunsTest {
     "determinant", "bounds", "outer", "inverse", "side", "simplest", "shared", "period", "round", "unit", "equation",
     "isRelation", "relation", "word", "spelt", "asks", "would", "count", "status"};
 
+  /** P, Q, R, WAY, u, v of COURSES with a long PERIOD, or of 60 STEPS without one. */
+  private static final int[][] LONG = {{-3, -2, 1, 1, 0, 1, 1, 1, 3, 0, 2, 1}, {-3, -3, -3, 1, 3, 2, 1, 1, -2, 0, 1, 1},
+    {-3, -2, 2, 1, 0, 1, 0, 3, 3, 0, -1, 3}, {-3, -3, 1, 0, 2, 2, 0, 3, 3, 2, 1, 3}};
+
   private final Random random;
   private final Method[] ours = CommonDenominator.class.getDeclaredMethods();
   private final CommonDenominator one = new CommonDenominator();
   private final Plain other = new Plain();
   private final StringBuilder calls = new StringBuilder();
   private int wrong = 0;
-  private String text = "";
+  private boolean wide = false;
 
   private RandomRunsTest(long seed) {
     random = new Random(seed);
@@ -32,7 +36,8 @@ public final class RandomRunsTest {
   }
 
   private int run(int length) throws Exception {
-    int kind = random.nextInt(4);
+    int kind = random.nextInt(5);
+    wide = kind == 4;
     for (int k = 0; k < length && wrong == 0; k++) {
       if (random.nextInt(100) < (kind == 0 ? 50 : 35)) change(kind);
       else ask(TELLS[random.nextInt(TELLS.length)], null);
@@ -47,10 +52,26 @@ public final class RandomRunsTest {
     if (kind == 2 && random.nextInt(2) == 0) name = "go";
     if (kind == 3 && random.nextInt(2) == 0) name = new String[] {"feed", "read", "solve"}[random.nextInt(3)];
     if (name.equals("begin") && random.nextBoolean()) ask("set", new Object[] {0, small(), small(), small(), 1});
-    if (name.equals("begin") && random.nextInt(4) == 0) {
-      ask("set", new Object[] {0, 0, 1, 0, 1});
-      ask("set", new Object[] {1, 0, 0, 1, 1});
+    if (name.equals("begin") && random.nextInt(3) == 0) {
+      int sign = Integer.signum(other.count(2));
+      ask("set", new Object[] {0, random.nextInt(3) / 2, sign, 0, 1});
+      ask("set", new Object[] {1, random.nextInt(3) / 2, 0, 1, 1});
       ask("begin", new Object[] {0, 1});
+      return;
+    }
+    if (name.equals("field") && random.nextInt(6) == 0) {
+      int[] known = LONG[random.nextInt(LONG.length)];
+      ask("field", new Object[] {known[0], known[1], known[2]});
+      ask("way", new Object[] {known[3]});
+      ask("set", new Object[] {0, known[4], known[5], known[6], known[7]});
+      ask("set", new Object[] {1, known[8], known[9], known[10], known[11]});
+      ask("begin", new Object[] {0, 1});
+      ask("go", new Object[] {60});
+      return;
+    }
+    if (name.equals("begin") && random.nextInt(5) > 0) {
+      ask("begin", new Object[] {positive(), positive()});
+      return;
     }
     if (name.equals("read") && random.nextInt(4) > 0) write();
     if (name.equals("solve") && random.nextInt(2) > 0) {
@@ -58,6 +79,13 @@ public final class RandomRunsTest {
       ask("read", new Object[0]);
     }
     ask(name, null);
+  }
+
+  /** A place of STORE with a VALUE above 0, if a few looks find one. */
+  private int positive() {
+    int i = random.nextInt(6);
+    for (int k = 0; k < 10 && (other.value(i, 4) <= 0 || other.value(i, 5) > 99); k++) i = random.nextInt(6);
+    return i;
   }
 
   private int small() {
@@ -143,7 +171,8 @@ public final class RandomRunsTest {
       case "way": return random.nextInt(2);
       case "set":
         if (k == 0) return random.nextInt(6);
-        if (random.nextInt(6) == 0) return random.nextInt(301) - 150;
+        if (wide && random.nextInt(3) == 0) return random.nextBoolean() ? 150 : -150;
+        if (wide || random.nextInt(6) == 0) return random.nextInt(301) - 150;
         return k == 4 ? (random.nextInt(5) == 0 ? -1 : 1) * (1 + random.nextInt(random.nextInt(3) == 0 ? 12 : 2)) : random.nextInt(11) - 4;
       case "combine": return k == 0 ? random.nextInt(4) : random.nextInt(6);
       case "go": return 1 + random.nextInt(random.nextBoolean() ? 60 : 5);
@@ -152,12 +181,15 @@ public final class RandomRunsTest {
       case "image": case "back": return random.nextInt(2);
       case "state": case "digit": return k == 0 ? random.nextInt(random.nextInt(3) == 0 ? 61 : 6) : random.nextInt(5);
       case "word": return k == 0 ? random.nextInt(random.nextInt(3) == 0 ? 41 : 4) : random.nextInt(3);
-      case "side": return k == 1 ? random.nextInt(400) - 50 : 1 + random.nextInt(200);
+      case "side":
+        if (wide) return k == 1 ? random.nextInt(1999) - 999 : 999 - random.nextInt(random.nextBoolean() ? 3 : 999);
+        return k == 1 ? random.nextInt(400) - 50 : 1 + random.nextInt(200);
       case "isRelation": return random.nextInt(7) - 3;
       case "relation": return k == 0 ? 1 + random.nextInt(9) : random.nextInt(3);
       case "would": return k < 2 ? random.nextInt(6) : random.nextInt(k);
       case "count": return random.nextInt(20);
       case "begin": case "compare": case "keep": return random.nextInt(6);
+      case "equation": case "shared": return random.nextInt(3);
       case "value": case "norm": case "matrix": return k == 0 ? random.nextInt(6) : random.nextInt(name.equals("value") ? 6 : 3);
       case "bounds": case "unit": return random.nextInt(4);
       case "asks": case "outer": case "simplest": case "period": return random.nextInt(2);
