@@ -215,13 +215,13 @@ public final class CommonDenominator {
 
   public long matrix(int i, int k, int j) {
     if (!isStored(i) || !Square.has(k, j)) return NOTHING;
-    field.layRows(store[i]);
+    field.layRows(store[i].a, store[i].b, store[i].c);
     return field.rows.cell(k, j);
   }
 
   public long norm(int i, int which, int what) {
     if (!isStored(i) || which < 0 || which > 2 || what < 0 || what > 1) return NOTHING;
-    field.layRows(store[i]);
+    field.layRows(store[i].a, store[i].b, store[i].c);
     long d = store[i].d;
     if (which == 0) return lowest(field.rows.equate(2), d * d * d, what);
     if (which == 1) return lowest(field.rows.equate(0), d, what);
@@ -579,11 +579,8 @@ public final class CommonDenominator {
       return (int) discriminantOf(p, q, r);
     }
 
-    void layRows(Value v) {
-      layRows(v.a, v.b, v.c);
-    }
-
-    private void layRows(long a, long b, long c) {
+    /** The MATRIX of a, b, c. */
+    void layRows(long a, long b, long c) {
       rows.layRow(0, a, b, c);
       long top = b + c * p;
       rows.layRow(1, c * r, a + c * q, top);
@@ -638,13 +635,13 @@ public final class CommonDenominator {
     }
 
     void multiply(Value v, Value w, Value into) {
-      layRows(w);
+      layRows(w.a, w.b, w.c);
       into.put(rows.under(v, 0), rows.under(v, 1), rows.under(v, 2), v.d * w.d);
     }
 
     /** w is not 0: its norm by w is a VALUE, the first column of the cofactors of w's rows. */
     void divide(Value v, Value w, Value into) {
-      layRows(w);
+      layRows(w.a, w.b, w.c);
       long size = rows.equate(2);
       layRows(rows.cofactor(0, 0), rows.cofactor(1, 0), rows.cofactor(2, 0));
       into.put(w.d * rows.under(v, 0), w.d * rows.under(v, 1), w.d * rows.under(v, 2), v.d * size);
@@ -732,11 +729,12 @@ public final class CommonDenominator {
 
     /** With the sign that it has in a determinant. */
     long cofactor(int i, int j) {
-      int below = (i + 1) % 3;
-      int last = (i + 2) % 3;
+      if (!has(i, j)) return 0;
+      int below = 3 * ((i + 1) % 3);
+      int last = 3 * ((i + 2) % 3);
       int right = (j + 1) % 3;
       int end = (j + 2) % 3;
-      return cell(below, right) * cell(last, end) - cell(below, end) * cell(last, right);
+      return cells[below + right] * cells[last + end] - cells[below + end] * cells[last + right];
     }
 
     /** T (what 0), U (1), D (2) of its EQUATION; D, where it is 1 or -1, is right even if products wrap. */
@@ -805,10 +803,10 @@ public final class CommonDenominator {
     }
 
     static boolean canOpen(Field field, Value x, Value y) {
-      return canOpen(field, x) && canOpen(field, y);
+      return isFit(field, x) && isFit(field, y);
     }
 
-    private static boolean canOpen(Field field, Value x) {
+    private static boolean isFit(Field field, Value x) {
       return field.sign(x) > 0 && field.floor(x) <= MOST_FLOOR;
     }
 

@@ -1,4 +1,5 @@
 import java.math.BigInteger;
+import java.util.Random;
 
 /** Each promise of the document by hand: ordinary calls, the edges that it names, wrong calls. */
 public final class PromisesTest {
@@ -163,6 +164,13 @@ public final class PromisesTest {
     refused("field(0, -4, 2)", x.field(0, -4, 2), -1);
     refused("field(0, 0, 4)", x.field(0, 0, 4), -1);
     refused("field: R 0", x.field(1, 1, 0), -4);
+    refused("field: a root of 3", x.field(3, -1, 3), -4);
+    refused("field: a root of -3", x.field(-3, -1, -3), -4);
+    refused("field: a root of -2", x.field(-2, -1, -2), -4);
+    done("field(0, -3, 1)", x.field(0, -3, 1), -135, 0);
+    done("field(-3, 3, -3)", x.field(-3, 3, -3), -864, 0);
+    done("field(0, 0, -3)", x.field(0, 0, -3), -243, 0);
+    x.set(0, 0, 1, 0, 1);
     refused("field: a whole root", x.field(0, 0, 1), -4);
     refused("field: three real roots", x.field(0, 3, 1), -4);
     due("count(2)", x.count(2), -3);
@@ -230,6 +238,8 @@ public final class PromisesTest {
     refused("measure 1 by 256", measures(1 / 256.0), -5);
     refused("measure 0.1", measures(0.1), -5);
     refused("measure 1e300", measures(1e300), -5);
+    for (int power = 8; power < 200; power++) refused("measure 2 up " + power, measures(Math.scalb(1.0, power)), -5);
+    for (int power = -8; power > -200; power--) refused("measure 2 up " + power, measures(Math.scalb(1.0, power)), -5);
     refused("measure the least", measures(Double.MIN_VALUE), -5);
     refused("measure without an end", measures(Double.NEGATIVE_INFINITY), -5);
     refused("measure none", measures(Double.NaN), -5);
@@ -267,6 +277,22 @@ public final class PromisesTest {
     values(2, -2, 1, 0, 6);
     x.set(0, 75, 0, 0, 1);
     done("150", x.combine(0, 0, 0, 2), 150, 0);
+    done("1 by 150", x.combine(3, 1, 2, 2), 0, 0);
+    values(2, 1, 0, 0, 150);
+    x.field(-3, 3, -2);
+    x.set(0, 3, -1, 2, 4);
+    for (int b = -2; b <= 2; b++) {
+      for (int c = -2; c <= 2; c++) {
+        x.set(1, 1, b, c, 3);
+        x.combine(3, 0, 1, 2);
+        int refusal = x.status();
+        x.combine(2, 2, 1, 3);
+        due("by, then times", refusal == 0 && x.status() == 0 ? x.compare(3, 0) : 0, 0);
+        x.combine(0, 0, 1, 2);
+        x.combine(1, 2, 1, 3);
+        due("and, then less", x.compare(3, 0), 0);
+      }
+    }
   }
 
   private static void begin() {
@@ -279,11 +305,16 @@ public final class PromisesTest {
     refused("begin: not above 0", x.begin(2, 4), -4);
     refused("begin: 0", x.begin(5, 2), -4);
     refused("begin: 100", x.begin(2, 3), -4);
+    refused("begin: 100", x.begin(3, 2), -4);
     refused("begin(6, 4)", x.begin(6, 4), -2);
     refused("begin(0, -1)", x.begin(0, -1), -2);
     due("count(5)", x.count(5), 0);
     x.set(1, 150, 0, 0, 2);
     done("begin(1, 2)", x.begin(1, 2), 75, 0);
+    x.set(1, 99, 0, 0, 1);
+    done("FLOORS of 99", x.begin(1, 1), 99, 0);
+    x.set(1, 150, 0, 0, 2);
+    x.begin(1, 2);
     done("begin(2, 2)", x.begin(2, 2), 0, 0);
     x.way(1);
     x.step();
@@ -324,6 +355,10 @@ public final class PromisesTest {
     due("not TURNED", x.digit(1, 2), 0);
     done("u 0, WAY 1", x.step(), 2, 0);
     due("TURNED", x.digit(2, 2), 1);
+    x.begin(0, 0);
+    x.step();
+    due("f and g alike: not TURNED", x.digit(1, 2), 0);
+    due("u is 1", x.state(1, false, 0), 1);
     x.way(0);
     x.set(0, 1, 0, 0, 100);
     x.set(1, 1, 0, 0, 1);
@@ -404,6 +439,7 @@ public final class PromisesTest {
   private static void read() {
     done("1 1;2 3t", reads("1 1;2 3t"), 2, 0);
     due("the TAPE is empty", x.count(12), 0);
+    done("blanks behind a t", reads("1 1 t  ; 2 2 t  "), 2, 0);
     done("blanks, leading noughts", reads("  007   000099 t ; 0 0  "), 2, 0);
     due("word(0, 0)", x.word(0, 0), 7);
     due("word(0, 1)", x.word(0, 1), 99);
@@ -464,6 +500,36 @@ public final class PromisesTest {
     due("go(60)", x.go(60), 2);
     due("period(0)", x.period(0), 0);
     due("asks(1)", x.asks(1), 2);
+    int solved = 0;
+    for (int k = 0; k < 18 * 18 * 18; k++) {
+      x = new CommonDenominator();
+      reads(spoken(k % 18) + ";" + spoken(k / 18 % 18) + ";" + spoken(k / 324));
+      x.solve();
+      if (x.status() != 0) continue;
+      solved++;
+      for (int i = 0; i < 3; i++) rowIsRootTimes(i);
+    }
+    due("WORDS that were SOLVED", solved > 300 ? 1 : 0, 1);
+  }
+
+  /** One of 18 DIGITS. */
+  private static String spoken(int k) {
+    return k / 2 % 3 + " " + k / 6 + (k % 2 == 1 ? "t" : "");
+  }
+
+  /** M, row i, times 1, u, v is ROOT times 1, u or v. */
+  private static void rowIsRootTimes(int i) {
+    x.set(2, 1, 0, 0, 1);
+    x.set(3, 0, 1, 0, 1);
+    if (i > 0) x.combine(2, 3, i - 1, 3);
+    x.set(4, 0, 0, 0, 1);
+    for (int j = 0; j < 3; j++) {
+      x.set(5, (int) x.spelt(i, j), 0, 0, 1);
+      x.combine(2, 5, j == 0 ? 2 : j - 1, 5);
+      x.combine(0, 4, 5, 4);
+    }
+    due("row " + i + " of M", x.compare(3, 4), 0);
+    due("none was REFUSED", x.count(17), 0);
   }
 
   private static void fault() {
@@ -541,6 +607,23 @@ public final class PromisesTest {
     x.field(1, 1, 1);
     due("field", x.undo(), 0);
     due("a COURSE comes back", x.state(3, true, 2), 1);
+    due("u of STATE 0", x.state(0, false, 1), 1);
+    x.way(1);
+    x.begin(1, 0);
+    x.step();
+    x.way(0);
+    x.field(-1, -2, 3);
+    x.field(1, 1, 1);
+    due("field", x.undo(), 0);
+    for (int k = 0; k < 3; k++) due("count(" + k + ")", x.count(k), k == 2 ? 3 : -1 - k);
+    due("field", x.undo(), 0);
+    due("count(7)", x.count(7), 1);
+    due("count(6)", x.count(6), 1);
+    due("u of STATE 0", x.state(0, false, 2), 1);
+    due("step", x.undo(), 5);
+    due("begin", x.undo(), 4);
+    due("u of STATE 0", x.state(0, false, 1), 1);
+    due("count(7)", x.count(7), 3);
   }
 
   private static void image() {
@@ -728,9 +811,16 @@ public final class PromisesTest {
       due("bounds(false, " + k + ")", x.bounds(false, k), u[k]);
       due("bounds(true, " + k + ")", x.bounds(true, k), v[k]);
     }
+    due("bounds(false, 4)", x.bounds(false, 4), NOTHING);
     due("bounds(true, 4)", x.bounds(true, 4), NOTHING);
     due("bounds(true, -1)", x.bounds(true, -1), NOTHING);
-    steps(29);
+    x.set(2, -1, 1, 0, 1);
+    x.begin(2, 1);
+    steps(3);
+    due("0 by 1", x.bounds(false, 0), 0);
+    due("0 by 1, below", x.bounds(false, 1), 1);
+    x.begin(0, 1);
+    steps(33);
     // ROOT lies between fractions the products of which are far beyond a long.
     due("count(7)", x.count(7), 33);
     due("the least below ROOT", cubeOfBound(0), -1);
@@ -754,6 +844,7 @@ public final class PromisesTest {
     due("outer(false, 1)", x.outer(false, 1), 0);
     due("outer(true, 0)", x.outer(true, 0), 1);
     due("outer(true, 1)", x.outer(true, 1), 0);
+    due("outer(false, 2)", x.outer(false, 2), -1);
     due("outer(true, 2)", x.outer(true, 2), -1);
     due("outer(true, -1)", x.outer(true, -1), -1);
     x.undo();
@@ -804,6 +895,7 @@ public final class PromisesTest {
     cubeRoots();
     x.go(3);
     due("side(false, 5, 4)", x.side(false, 5, 4), 1);
+    due("side(false, 1, 1)", x.side(false, 1, 1), 1);
     due("side(false, 63, 50)", x.side(false, 63, 50), -1);
     due("side(false, 635, 504)", x.side(false, 635, 504), 1);
     due("side(true, 800, 504)", x.side(true, 800, 504), 1);
@@ -833,16 +925,32 @@ public final class PromisesTest {
     due("19 by 12 .. 5 by 3, below", x.simplest(true, 1), 3);
     due("simplest(true, 2)", x.simplest(true, 2), NOTHING);
     due("simplest(true, -1)", x.simplest(true, -1), NOTHING);
-    x.set(2, 1, 1, 0, 1);
-    x.begin(2, 2);
-    x.way(0);
-    for (int n = 0; n < 12; n++) {
+    for (int n = 5; n < 11; n++) {
       x.step();
-      long y = x.simplest(false, 1);
-      for (long q = 1; q < y && y < 10000; q++) {
-        long p = (q * x.bounds(false, 0) + x.bounds(false, 1) - 1) / x.bounds(false, 1);
-        due("no less one", p * x.bounds(false, 3) <= q * x.bounds(false, 2) ? 1 : 0, 0);
-      }
+      simplestBySearch(false);
+      simplestBySearch(true);
+    }
+    x.set(2, -1, 1, 0, 1);
+    x.begin(2, 1);
+    steps(3);
+    due("0", x.simplest(false, 0), 0);
+    due("0, below", x.simplest(false, 1), 1);
+    longPeriod();
+    for (int n = 0; n < 20; n++) {
+      x.step();
+      if (x.simplest(false, 0) == NOTHING) continue;
+      simplestBySearch(false);
+      simplestBySearch(true);
+    }
+  }
+
+  private static void simplestBySearch(boolean other) {
+    for (long q = 1; q < 100000; q++) {
+      long p = (q * x.bounds(other, 0) + x.bounds(other, 1) - 1) / x.bounds(other, 1);
+      if (p * x.bounds(other, 3) > q * x.bounds(other, 2)) continue;
+      due("the first upper number", x.simplest(other, 0), p);
+      due("the first lower number", x.simplest(other, 1), q);
+      return;
     }
   }
 
@@ -874,6 +982,19 @@ public final class PromisesTest {
     }
     // The least lower number is 2620 behind 9 STEPS, 10079 behind 10.
     due("the last STEP with one", known, 9);
+    // A least lower number of 10000, and a q of 9999.
+    x.set(2, 3, 0, 1, 2);
+    x.set(3, 2, 5, -4, 4);
+    x.begin(2, 3);
+    steps(13);
+    due("a lower number of 10000", Math.min(x.product(0, 0), x.product(0, 1)), 10000);
+    due("none up to 9999", x.shared(0), NOTHING);
+    x.field(-2, 0, -1);
+    x.set(0, 0, -1, 1, 2);
+    x.set(1, 1, 1, 1, 2);
+    x.begin(0, 1);
+    steps(17);
+    due("by 9999", x.shared(0), 9999);
   }
 
   private static void period() {
@@ -919,6 +1040,18 @@ public final class PromisesTest {
     // 0 0 1; 1 0 1; 0 1 2 times 0 0 1; 1 0 0; 0 1 1.
     long[] two = {0, 1, 1, 0, 1, 2, 1, 2, 2};
     for (int k = 0; k < 9; k++) due("two STEPS", x.round(k / 3, k % 3), two[k]);
+    longPeriod();
+    x.go(60);
+    long[] m = {1, 0, 0, 0, 1, 0, 0, 0, 1};
+    for (int k = 4; k <= 41; k++) m = times(m, x.digit(k, 0), x.digit(k, 1), x.digit(k, 2) == 1);
+    for (int k = 0; k < 9; k++) due("38 STEPS", x.round(k / 3, k % 3), m[k]);
+  }
+
+  private static long[] times(long[] m, int a, int b, boolean turned) {
+    int[] square = turned ? new int[] {0, 0, 1, 0, 1, a, 1, 0, b} : new int[] {0, 0, 1, 1, 0, a, 0, 1, b};
+    long[] made = new long[9];
+    for (int k = 0; k < 27; k++) made[k / 3] += m[k / 9 * 3 + k % 3] * square[k % 3 * 3 + k / 3 % 3];
+    return made;
   }
 
   private static void unit() {
@@ -938,6 +1071,41 @@ public final class PromisesTest {
     x.step();
     due("ROOT", x.unit(1), 1);
     due("ROOT alone", x.unit(0), 0);
+    int units = 0;
+    Random random = new Random(1);
+    for (int k = 0; k < 3000; k++) {
+      x = new CommonDenominator();
+      if (k % 2 == 1) x.field(1, 1, 1);
+      x.way(k / 1500);
+      for (int i = 0; i < 2; i++) {
+        x.set(i, random.nextInt(6) - 2, random.nextInt(5) - 2, random.nextInt(5) - 2, 1 + random.nextInt(3));
+      }
+      x.begin(0, 1);
+      x.go(60);
+      if (x.unit(0) != UNTOLD && unitIsRowZero()) units++;
+    }
+    due("UNITS that were met: " + units, units > 20 ? 1 : 0, 1);
+  }
+
+  /** UNIT by combine(), where what comes of that can be. */
+  private static boolean unitIsRowZero() {
+    int before = x.count(17);
+    for (int other = 0; other < 2; other++) {
+      int k = x.period(0);
+      boolean v = other == 1;
+      x.set(other, x.state(k, v, 0), x.state(k, v, 1), x.state(k, v, 2), x.state(k, v, 3));
+    }
+    x.set(2, 1, 0, 0, 1);
+    x.set(3, 0, 0, 0, 1);
+    for (int j = 0; j < 3; j++) {
+      if (x.round(0, j) > 150) return false;
+      x.set(4, (int) x.round(0, j), 0, 0, 1);
+      x.combine(2, 4, j == 0 ? 2 : j - 1, 4);
+      x.combine(0, 3, 4, 3);
+    }
+    if (x.count(17) != before) return false;
+    for (int what = 0; what < 4; what++) due("UNIT", x.unit(what), x.value(3, what));
+    return true;
   }
 
   private static void equation() {
@@ -970,14 +1138,23 @@ public final class PromisesTest {
     due("0, 0, 0", x.isRelation(0, 0, 0) ? 1 : 0, 1);
     due("-5, 8, -2", x.isRelation(-5, 8, -2) ? 1 : 0, 0);
     due("-4, 8, -3", x.isRelation(-4, 8, -3) ? 1 : 0, 0);
-    due("1000", x.isRelation(-1000, 1600, -600) ? 1 : 0, 0);
     x.set(0, 1, 0, 0, 3);
     x.set(1, 1, 0, 0, 150);
     x.begin(0, 1);
     x.step();
     due("-333, 999, 0", x.isRelation(-333, 999, 0) ? 1 : 0, 1);
     due("0, 1, -50", x.isRelation(0, 1, -50) ? 1 : 0, 1);
-    due("0, -1, 1000", x.isRelation(0, -20, 1000) ? 1 : 0, 0);
+    due("0, -20, 1000", x.isRelation(0, -20, 1000) ? 1 : 0, 0);
+    due("0, 20, -1000", x.isRelation(0, 20, -1000) ? 1 : 0, 0);
+    x.set(0, 1, 0, 0, 2);
+    x.begin(0, 0);
+    due("500, -1000, 0", x.isRelation(500, -1000, 0) ? 1 : 0, 0);
+    due("499, -998, 0", x.isRelation(499, -998, 0) ? 1 : 0, 1);
+    x.set(0, 2, 0, 0, 1);
+    x.begin(0, 0);
+    due("1000, -500, 0", x.isRelation(1000, -500, 0) ? 1 : 0, 0);
+    due("-1000, 500, 0", x.isRelation(-1000, 500, 0) ? 1 : 0, 0);
+    due("998, -499, 0", x.isRelation(998, -499, 0) ? 1 : 0, 1);
   }
 
   private static void relation() {
@@ -1002,9 +1179,27 @@ public final class PromisesTest {
     due("k", x.relation(9, 0), -1);
     due("l", x.relation(9, 1), 0);
     due("m", x.relation(9, 2), 1);
-    x.set(0, 0, 1, 0, 1);
-    x.begin(1, 0);
+    x.set(2, 0, 1, 0, 1);
+    x.begin(1, 2);
     due("v beside: m is 0", x.relation(3, 2), 0);
+    x.set(0, 1, 0, 0, 3);
+    x.set(1, 2, 0, 0, 3);
+    x.begin(0, 1);
+    due("of 1, with all three", x.relation(1, 0), -1);
+    due("of 1, l", x.relation(1, 1), 1);
+    due("of 1, m", x.relation(1, 2), 1);
+    x.undo();
+    x.set(0, 0, 1, 0, 1);
+    x.set(1, 0, 2, 0, 1);
+    x.begin(0, 1);
+    due("l of u, 2 u", x.relation(2, 1), -2);
+    due("m of u, 2 u", x.relation(2, 2), 1);
+    x.set(0, 0, 0, 1, 1);
+    x.set(1, 1, 0, 1, 1);
+    x.begin(0, 1);
+    due("k of u, u and 1", x.relation(2, 0), -1);
+    due("l of u, u and 1", x.relation(2, 1), -1);
+    due("m of u, u and 1", x.relation(2, 2), 1);
   }
 
   private static void word() {
@@ -1066,6 +1261,14 @@ public final class PromisesTest {
     due("TURNED or not", x.asks(1), 1);
     reads("1 1;2 3");
     due("the whole WORD", x.asks(1), 2);
+    reads("0 1;2 3");
+    due("another a", x.asks(1), 0);
+    reads("1 0;2 3");
+    due("another b", x.asks(1), 0);
+    reads("1 1t;2 3");
+    due("TURNED", x.asks(1), 0);
+    reads("1 1;1 3");
+    due("another a", x.asks(1), 1);
     x.field(1, 1, 1);
     due("no COURSE", x.asks(1), 0);
   }
