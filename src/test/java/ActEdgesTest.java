@@ -12,6 +12,7 @@ public final class ActEdgesTest {
       + "way(0) set(0, 0, 1, 0, 1) set(1, 0, 0, 1, 1) begin(0, 1) go(2) 2*step() keep(2, 2) writes(7 8) ";
 
   public static void main(String[] args) {
+    lastCall();
     field();
     way();
     set();
@@ -54,6 +55,16 @@ public final class ActEdgesTest {
 
     T.sentence("2. -4 (it can't be one)");
     T.given(FULL).refused("field(0, 0, 0)", -4).refused("field(3, 3, 0)", -4).refused("field(0, 3, 1)", -4);
+  }
+
+  private static void lastCall() {
+    T.sentence("What it is. an object is used for at most 512 calls");
+    T.given(Edges.CUBE + "go(60) 504*set(5, 1, 0, 0, 1) set(5, 7, 0, 0, 1)").is("value(5, 0)", 7).is("count(11)", 8).is("step()", 4);
+    T.given("");
+    for (int k = 0; k < 511; k++) T.is("compare(6, 0)", -2);
+    T.is("count(14)", 0).given("");
+    for (int k = 0; k < 511; k++) T.due("way(2)", T.ask("way(2)"), -1);
+    T.is("count(13)", 511);
   }
 
   private static void way() {

@@ -166,7 +166,7 @@ final class Edges {
   }
 
   private long invoke(String name, String[] parts) {
-    // An object is promised for 512 calls.
+    // An object is promised for 512 calls (the looks at status() and count() behind them are not counted here).
     if (++calls > 512) throw new IllegalStateException("more than 512 calls");
     Method method = METHODS.get(name);
     Class<?>[] kinds = method.getParameterTypes();

@@ -3,6 +3,9 @@ public final class ToldEdgesTest {
   private static final Edges T = new Edges();
   private static final int UNTOLD = Edges.UNTOLD;
   private static final long NOTHING = Edges.NOTHING;
+  /** A WORD, the last number of which is 9223372036854775807, that to the left of it 0. */
+  private static final String LONGEST = "0 3t;0 3t;0 3t;0 3t;0 3t;0 3t;0 3t;0 3t;0 3t;0 2t;0 28t;0 6t;0 2t;0 4t;0 18t;0 3t;0 66t;"
+      + "0 37t;0 6t;0 27t;0 12t;0 52t;0 4t";
   /** A WORD, the last number of which is 9223372036854775808, that to the left of it 0. */
   private static final String BEYOND = "0 3t;0 3t;0 3t;0 3t;0 3t;0 3t;0 3t;0 3t;0 3t;0 2t;0 2t;0 20t;0 9t;0 33t;0 28t;0 1t;0 35t;"
       + "0 17t;0 2t;0 1t;0 75t;0 61t;0 25t";
@@ -416,9 +419,12 @@ public final class ToldEdgesTest {
 
     T.sentence("40. NOTHING beyond a long");
     // With all DIGITS TURNED and a 0 the last number is that of a fraction told by whole parts.
-    T.given("reads(0 3t;0 3t;0 3t;0 3t;0 3t;0 3t;0 3t;0 3t;0 3t;0 2t;0 28t;0 6t;0 2t;0 4t;0 18t;0 3t;0 66t;0 37t;0 6t;0 27t;0 12t;"
-        + "0 52t;0 4t)").is("spelt(2, 2)", Long.MAX_VALUE);
+    T.given("reads(" + LONGEST + ")").is("spelt(2, 2)", Long.MAX_VALUE);
     T.due("another", T.ask("spelt(0, 0)") > 0 && T.ask("spelt(0, 2)") > 0 && T.ask("spelt(2, 0)") > 0);
+    // Once that number is right; twice it, or it and another one, is beyond.
+    T.given("reads(" + LONGEST + ";0 0;1 0)").is("spelt(2, 2)", Long.MAX_VALUE).is("spelt(2, 0)", Long.MAX_VALUE);
+    T.given("reads(" + LONGEST + ";0 0;2 0)").is("spelt(2, 2)", NOTHING).is("spelt(2, 0)", Long.MAX_VALUE);
+    T.given("reads(" + LONGEST + ";0 0;1 1)").is("spelt(2, 2)", NOTHING).is("spelt(2, 0)", Long.MAX_VALUE);
     // 9223372036854775808; 18446744073709551621, that is 5 by wrap-around.
     T.given("reads(" + BEYOND + ")").is("spelt(2, 2)", NOTHING).is("spelt(1, 1)", 1);
     T.due("another", T.ask("spelt(0, 0)") > 0 && T.ask("spelt(0, 2)") > 0 && T.ask("spelt(2, 0)") > 0);
