@@ -256,7 +256,7 @@ public final class CommonDenominator {
 
   public long bounds(boolean other, int what) {
     if (what < 0 || what > 3 || !hasBounds()) return NOTHING;
-    return between.end(other ? 1 : 0, what);
+    return between.endOf(other ? 1 : 0, what);
   }
 
   public int outer(boolean other, int what) {
@@ -1051,7 +1051,7 @@ public final class CommonDenominator {
       return 0;
     }
 
-    long end(int part, int what) {
+    long endOf(int part, int what) {
       int at = 4 * part + what;
       return at >= 0 && at < ends.length ? ends[at] : NOTHING;
     }
@@ -1070,10 +1070,10 @@ public final class CommonDenominator {
 
     /** The upper (what 0) or lower number of SIMPLEST: whole parts that both ends have, then the least whole number. */
     long simplestOf(int part, int what) {
-      long x = end(part, 0);
-      long y = end(part, 1);
-      long z = end(part, 2);
-      long w = end(part, 3);
+      long x = endOf(part, 0);
+      long y = endOf(part, 1);
+      long z = endOf(part, 2);
+      long w = endOf(part, 3);
       // The numbers told so far: as of 1 by 0 and, ahead of it, 0 by 1.
       long now = what == 0 ? 1 : 0;
       long before = 1 - now;
@@ -1110,11 +1110,11 @@ public final class CommonDenominator {
 
     /** The least whole number that by q lies within the BOUNDS, NOTHING without one. */
     private long leastWhole(int q, int part) {
-      long y = end(part, 1);
-      long w = end(part, 3);
+      long y = endOf(part, 1);
+      long w = endOf(part, 3);
       if (y <= 0 || w <= 0) return NOTHING;
-      long least = (q * end(part, 0) + y - 1) / y;
-      return least <= q * end(part, 2) / w ? least : NOTHING;
+      long least = (q * endOf(part, 0) + y - 1) / y;
+      return least <= q * endOf(part, 2) / w ? least : NOTHING;
     }
   }
 

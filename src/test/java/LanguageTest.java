@@ -86,7 +86,10 @@ public final class LanguageTest {
       if (!isStatic) fields++;
     }
     due(fields <= 20, inside + " has some twenty fields");
-    for (Method method : inside.getDeclaredMethods()) due(method.getParameterCount() <= 7, method + " takes seven at most");
+    for (Method method : inside.getDeclaredMethods()) {
+      due(method.getParameterCount() <= 7, method + " takes seven at most");
+      due(!FACE.matches("(.* )?" + method.getName() + "\\(.*"), method + " bears no name of the face");
+    }
   }
 
   private static void text(String source) {

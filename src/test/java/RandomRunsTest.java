@@ -21,6 +21,8 @@ public final class RandomRunsTest {
   private final StringBuilder calls = new StringBuilder();
   private int wrong = 0;
   private boolean wide = false;
+  /** One number of so many is far off, or at an edge. */
+  private int odd = 60;
 
   private RandomRunsTest(long seed) {
     random = new Random(seed);
@@ -36,8 +38,9 @@ public final class RandomRunsTest {
   }
 
   private int run(int length) throws Exception {
-    int kind = random.nextInt(5);
+    int kind = random.nextInt(6);
     wide = kind == 4;
+    odd = kind == 5 ? 5 : 60;
     for (int k = 0; k < length && wrong == 0; k++) {
       if (random.nextInt(100) < (kind == 0 ? 50 : 35)) change(kind);
       else ask(TELLS[random.nextInt(TELLS.length)], null);
@@ -162,9 +165,10 @@ public final class RandomRunsTest {
   }
 
   private int number(String name, int k) {
-    if (random.nextInt(60) == 0) {
-      int[] odd = {-1, 6, 7, 60, 61, 100, 150, 151, -150, -151, 999, 1000, -999, -1000, Integer.MIN_VALUE, Integer.MAX_VALUE};
-      return odd[random.nextInt(odd.length)];
+    if (random.nextInt(odd) == 0) {
+      int[] far = {-1, 6, 7, 60, 61, 100, 150, 151, -150, -151, 200, 999, 1000, -999, -1000, Integer.MIN_VALUE,
+        Integer.MIN_VALUE + 1, Integer.MAX_VALUE - 1, Integer.MAX_VALUE};
+      return far[random.nextInt(far.length)];
     }
     switch (name) {
       case "field": return random.nextInt(7) - 3;
